@@ -410,6 +410,18 @@ public final class TombLanePromises {
         due("torn by work told first", x.day(2, 7, 0), 7);
         find(x, "day 8 right: wicks ?;");
         due("a gap of wicks is no entry", x.day(3, 8, 0), 1);
+        find(x, "day 9 left: ani work bek ill ?; day 9 left: kha ill ?; day 9 left: ani ? bek ? ?;");
+        due("work, and nothing more told", x.day(0, 9, 0), 1);
+        due("ill, and nothing more told", x.day(1, 9, 0), 2);
+        TombLane full = crowd();
+        due("no such name among 12", find(full, "day 1 right: m ill;"), -1);
+        due("its fault", full.fault(0), 4);
+        find(full, "day 1 right: l ill; day 2 right: b work ? wicks 12; day 3 right: l drunk ? wicks 0;");
+        due("the last of 12", full.day(11, 1, 0), 2);
+        due("one of 12", full.day(9, 1, 0), 1);
+        due("the last of 12, narrowed", full.day(11, 2, 0), 1);
+        due("one of 12, narrowed", full.day(9, 3, 0), 6);
+        due("the last of 12, told", full.day(11, 3, 0), 5);
         x.man(name("new"), 0, 0);
         due("one who came later", x.day(4, 5, 0), 1);
         due("as known on -1", x.day(0, 0, -1), 0);
