@@ -1,13 +1,5 @@
 /** Each promise of the document by hand: ordinary inputs, the edges that it names, wrong inputs. */
-public final class TombLanePromises {
-    private static int wrong = 0;
-    private static int promise = 0;
-
-    private static final int LOW = Integer.MIN_VALUE;
-    private static final int HIGH = Integer.MAX_VALUE;
-    private static final int NO_ARREARS = -1000000;
-    private static final int NO_BALANCE = -2000000001;
-
+public final class TombLanePromises extends Bench {
     public static void main(String[] args) {
         promise1NewObject();
         promise2Man();
@@ -34,82 +26,11 @@ public final class TombLanePromises {
         promise20Fewest();
         promise21Of();
         promise22About();
-        System.out.println(wrong == 0 ? "all answers are as due" : wrong + " answers are not as due");
-        if (wrong != 0) {
-            System.exit(1);
-        }
-    }
-
-    private static void due(String call, long got, long want) {
-        if (got != want) {
-            wrong++;
-            System.out.println("promise " + promise + ": " + call + " answered " + got + ", due is " + want);
-        }
-    }
-
-    private static void due(String call, boolean got, boolean want) {
-        due(call, got ? 1 : 0, want ? 1 : 0);
-    }
-
-    private static long name(String letters) {
-        long bytes = 0;
-        for (int i = 0; i < letters.length(); i++) {
-            bytes = bytes << 8 | letters.charAt(i);
-        }
-        return bytes;
-    }
-
-    private static int four(String text, int from) {
-        int bytes = 0;
-        for (int i = from; i < from + 4; i++) {
-            bytes = bytes << 8 | (i < text.length() ? text.charAt(i) : ' ');
-        }
-        return bytes;
-    }
-
-    private static void write(TombLane x, String text) {
-        int before = x.about(5);
-        for (int i = 0; i < text.length(); i += 20) {
-            x.feed(four(text, i), four(text, i + 4), four(text, i + 8), four(text, i + 12), four(text, i + 16));
-        }
-        x.end(before + text.length());
-    }
-
-    private static int find(TombLane x, String text) {
-        write(x, text);
-        return x.flake();
-    }
-
-    /** ani, bek, kha of the left gang, pai of the right one, of the ranks 0 to 3. */
-    private static TombLane village() {
-        TombLane x = new TombLane();
-        x.man(name("ani"), 0, 0);
-        x.man(name("bek"), 0, 1);
-        x.man(name("kha"), 0, 2);
-        x.man(name("pai"), 1, 3);
-        return x;
-    }
-
-    private static TombLane crowd() {
-        TombLane x = new TombLane();
-        for (int i = 0; i < 12; i++) {
-            x.man('a' + i, i % 2, i % 4);
-        }
-        return x;
-    }
-
-    private static void dueFault(String text, int fault, int place) {
-        TombLane x = village();
-        x.man(name("abcdefgh"), 0, 0);
-        due("flake of " + text, find(x, text), fault == 0 ? 0 : -1);
-        due("fault(0) of " + text, x.fault(0), fault);
-        due("fault(1) of " + text, x.fault(1), place);
-        due("about(1) behind " + text, x.about(1), fault == 0 ? 1 : 0);
-        due("about(5) behind " + text, x.about(5), 0);
+        close();
     }
 
     private static void promise1NewObject() {
-        promise = 1;
+        testing("promise 1");
         TombLane x = new TombLane();
         for (int what = 0; what <= 5; what++) {
             due("about(" + what + ")", x.about(what), 0);
@@ -125,7 +46,7 @@ public final class TombLanePromises {
     }
 
     private static void promise2Man() {
-        promise = 2;
+        testing("promise 2");
         TombLane x = new TombLane();
         due("a", x.man(name("a"), 0, 0), 0);
         due("z", x.man(name("z"), 1, 3), 1);
@@ -133,8 +54,7 @@ public final class TombLanePromises {
         due("zzzzzzzz", x.man(name("zzzzzzzz"), 1, 0), 3);
         due("a again", x.man(name("a"), 0, 0), -1);
         due("a again on the other side", x.man(name("a"), 1, 2), -1);
-        String[] words = {"day", "left", "right", "wicks", "work", "ill", "feast", "away", "drunk"};
-        for (String word : words) {
+        for (String word : NO_NAMES) {
             due(word, x.man(name(word), 0, 0), -1);
         }
         due("days", x.man(name("days"), 0, 0), 4);
@@ -163,7 +83,7 @@ public final class TombLanePromises {
     }
 
     private static void promise3Feed() {
-        promise = 3;
+        testing("promise 3");
         TombLane x = village();
         for (int i = 1; i <= 15; i++) {
             due("feed " + i, x.feed(0x20202020, 0x20202020, 0x20202020, 0x20202020, 0x20202020), 20 * i);
@@ -185,7 +105,7 @@ public final class TombLanePromises {
     }
 
     private static void promise4End() {
-        promise = 4;
+        testing("promise 4");
         TombLane x = village();
         due("end(0)", x.end(0), 0);
         due("end(1)", x.end(1), -1);
@@ -207,7 +127,7 @@ public final class TombLanePromises {
     }
 
     private static void promise5Flake() {
-        promise = 5;
+        testing("promise 5");
         TombLane x = village();
         due("an empty one", x.flake(), 0);
         due("its lines", x.about(10), 0);
@@ -236,7 +156,7 @@ public final class TombLanePromises {
     }
 
     private static void promise6FaultOfTokens() {
-        promise = 6;
+        testing("promise 6");
         dueFault("A", 1, 0);
         dueFault(" \tday", 1, 1);
         dueFault("\rday", 1, 0);
@@ -262,7 +182,7 @@ public final class TombLanePromises {
     }
 
     private static void promise6FaultOfGrammar() {
-        promise = 6;
+        testing("promise 6");
         dueFault("left", 2, 0);
         dueFault("5", 2, 0);
         dueFault("?", 2, 0);
@@ -307,7 +227,7 @@ public final class TombLanePromises {
     }
 
     private static void promise6FaultOfMeaning() {
-        promise = 6;
+        testing("promise 6");
         dueFault("day 3599 left:;", 0, -1);
         dueFault("day 3600 left:;", 3, 4);
         dueFault("day 9999 X", 3, 4);
@@ -331,7 +251,7 @@ public final class TombLanePromises {
     }
 
     private static void promise7GiveUp() {
-        promise = 7;
+        testing("promise 7");
         TombLane x = village();
         due("none yet", x.giveUp(0), false);
         find(x, "day 1 left: ani ill ?;");
@@ -358,7 +278,7 @@ public final class TombLanePromises {
     }
 
     private static void promise8Later() {
-        promise = 8;
+        testing("promise 8");
         TombLane x = new TombLane();
         due("later(0)", x.later(0), 0);
         due("later(1000)", x.later(1000), 1000);
@@ -378,7 +298,7 @@ public final class TombLanePromises {
     }
 
     private static void promise9Day() {
-        promise = 9;
+        testing("promise 9");
         TombLane x = village();
         find(x, "day 0 left: ani work bek ill kha feast; day 3599 left: ani away bek drunk kha ?;");
         due("work", x.day(0, 0, 0), 1);
@@ -438,7 +358,7 @@ public final class TombLanePromises {
     }
 
     private static void promise9DayNarrowed() {
-        promise = 9;
+        testing("promise 9");
         TombLane x = village();
         find(x, "day 1 left: ani ill ? wicks 4; day 2 left: ani work ? wicks 2; day 3 left: ? wicks 4;");
         due("as many as are open", x.day(1, 1, 0), 1);
@@ -469,7 +389,7 @@ public final class TombLanePromises {
     }
 
     private static void promise10Wicks() {
-        promise = 10;
+        testing("promise 10");
         TombLane x = village();
         due("nothing told", x.wicks(0, 1, 0), 0);
         find(x, "day 1 left: wicks ?; day 2 left: ani work ?; day 2 left: ani ill ?;");
@@ -511,7 +431,7 @@ public final class TombLanePromises {
     }
 
     private static void promise11Span() {
-        promise = 11;
+        testing("promise 11");
         TombLane x = village();
         due("nothing known, least", x.span(0, 0, 0, false), 0);
         due("nothing known, greatest", x.span(0, 119, 0, true), 30);
@@ -535,7 +455,7 @@ public final class TombLanePromises {
     }
 
     private static void promise12Missed() {
-        promise = 12;
+        testing("promise 12");
         TombLane x = village();
         find(x, "day 0 left: ani ill; day 29 left: ani ill; day 30 left: ani ill; day 1 left: ani feast;");
         find(x, "day 2 left: ani away; day 3 left: ani drunk; day 4 left: ? wicks 0; day 5 left: ani ill; day 5 left:;");
@@ -562,7 +482,7 @@ public final class TombLanePromises {
     }
 
     private static void promise13Ration() {
-        promise = 13;
+        testing("promise 13");
         TombLane x = village();
         for (int rank = 0; rank < 4; rank++) {
             due("at first, rank " + rank, x.arrears(rank, 29), 4 + rank);
@@ -582,7 +502,7 @@ public final class TombLanePromises {
     }
 
     private static void promise14Come() {
-        promise = 14;
+        testing("promise 14");
         TombLane x = village();
         due("come(0, 0, 1)", x.come(0, 0, 1), 1);
         due("come(3, 3599, 1000)", x.come(3, 3599, 1000), 2);
@@ -605,7 +525,7 @@ public final class TombLanePromises {
     }
 
     private static void promise15Arrears() {
-        promise = 15;
+        testing("promise 15");
         TombLane x = village();
         due("day 0", x.arrears(0, 0), 0);
         due("day 28", x.arrears(0, 28), 0);
@@ -629,7 +549,7 @@ public final class TombLanePromises {
     }
 
     private static void promise16Worth() {
-        promise = 16;
+        testing("promise 16");
         TombLane x = village();
         x.debt(0, 1, 4, 2, 3599);
         x.debt(0, 1, 0, 3, 359);
@@ -653,7 +573,7 @@ public final class TombLanePromises {
     }
 
     private static void promise17Debt() {
-        promise = 17;
+        testing("promise 17");
         TombLane x = village();
         due("debt(0, 1, 0, 1, 0)", x.debt(0, 1, 0, 1, 0), 0);
         due("debt(3, 2, 4, 1000, 3599)", x.debt(3, 2, 4, 1000, 3599), 1);
@@ -683,7 +603,7 @@ public final class TombLanePromises {
     }
 
     private static void promise18Pay() {
-        promise = 18;
+        testing("promise 18");
         TombLane x = village();
         due("none yet", x.pay(0, 0), false);
         x.debt(0, 1, 0, 5, 10);
@@ -707,7 +627,7 @@ public final class TombLanePromises {
     }
 
     private static void promise19Balance() {
-        promise = 19;
+        testing("promise 19");
         TombLane x = village();
         x.worth(2, 0, 1000);
         x.debt(0, 1, 2, 1000, 5);
@@ -733,7 +653,7 @@ public final class TombLanePromises {
     }
 
     private static void promise20Fewest() {
-        promise = 20;
+        testing("promise 20");
         TombLane x = crowd();
         due("none", x.fewest(0), 0);
         due("the last day", x.fewest(3599), 0);
@@ -787,7 +707,7 @@ public final class TombLanePromises {
     }
 
     private static void promise21Of() {
-        promise = 21;
+        testing("promise 21");
         TombLane x = village();
         x.man(name("abcdefgh"), 1, 2);
         x.man(name("z"), 0, 3);
@@ -807,7 +727,7 @@ public final class TombLanePromises {
     }
 
     private static void promise22About() {
-        promise = 22;
+        testing("promise 22");
         TombLane x = village();
         find(x, "day 1 left:;");
         find(x, "");
