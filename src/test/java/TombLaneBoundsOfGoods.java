@@ -388,8 +388,8 @@ public final class TombLaneBoundsOfGoods extends Bench {
         due("no MEN", new TombLane().fewest(0), 0);
         TombLane x = village();
         due("no DEBTS", x.fewest(3599), 0);
-        x.debt(0, 1, 0, 5, 0);
-        due("one", x.fewest(0), 1);
+        x.debt(0, 1, 0, 1, 0);
+        due("the least sum", x.fewest(0), 1);
         x.worth(0, 0, 0);
         due("worth nothing", x.fewest(0), 0);
         x.worth(0, 0, 1);

@@ -352,6 +352,10 @@ public final class TombLaneBoundsOfMen extends Bench {
         due("the next has the next number", find(x, "day 4 left: ani away ?;"), 1);
         due("no FAULT", x.fault(0), 0);
         due("no place", x.fault(1), -1);
+        due("a FAULT again", find(x, "X"), -1);
+        due("an empty one behind it", x.flake(), 2);
+        due("no FAULT of it", x.fault(0), 0);
+        due("no place of it", x.fault(1), -1);
         for (int what : new int[] {-1, 2, LOW, HIGH}) {
             dueRefused("fault(" + what + ")", v -> v.fault(what), -1);
         }

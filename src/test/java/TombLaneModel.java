@@ -443,14 +443,16 @@ public final class TombLaneModel {
         private final TombLane lane = new TombLane();
         private final Model model = new Model();
         private final List<String> log = new ArrayList<>();
-        // How often a text is spoilt, and over how many days the run goes, differ between runs.
+        // How often a text is spoilt, over how many days the run goes, and what it fills, differ between runs.
         private final int spoil;
         private final int days;
+        private final int filled;
 
         private Run(int seed) {
             random = new Random(seed);
             spoil = 1 + seed % 5;
             days = seed % 3 == 0 ? 3 : seed % 3 == 1 ? 40 : 3600;
+            filled = seed % 7;
         }
 
         private boolean one(int chance) {
@@ -679,12 +681,36 @@ public final class TombLaneModel {
             }
         }
 
+        /** One call more of what this run is to fill; the runs of kind 6 fill nothing. */
+        private void fill() {
+            switch (filled) {
+                case 0 -> man();
+                case 1 -> flakeOf("");
+                case 2 -> {
+                    int man = aMan();
+                    int sacks = 1 + below(1000);
+                    due("come " + man + " 5 " + sacks, lane.come(man, 5, sacks), model.come(man, 5, sacks));
+                }
+                case 3 -> {
+                    int by = aMan();
+                    int to = aMan();
+                    due("debt " + by + " " + to + " 0 1 5", lane.debt(by, to, 0, 1, 5), model.debt(by, to, 0, 1, 5));
+                }
+                case 4 -> due("later 1000", lane.later(1000), model.later(1000));
+                case 5 -> feed(" ".repeat(20));
+                default -> { }
+            }
+        }
+
         private void go() {
             for (int i = 0; i < 6; i++) {
                 man();
             }
-            // The last call may be a flake with its feeds: at most 18 more.
-            while (log.size() < CALLS - 18) {
+            // A round is at most 23 calls: 4 that fill, and a flake with 15 feeds, an end and two faults.
+            while (log.size() <= CALLS - 23) {
+                if (one(2)) {
+                    fill();
+                }
                 switch (random.nextInt(10)) {
                     case 0, 1 -> flakeOf(text());
                     case 2 -> man();
@@ -695,17 +721,34 @@ public final class TombLaneModel {
                 }
             }
         }
+
+        /** Which limits the run has come to, as bits; feeds have passed the last one if one was refused. */
+        private int limitsMet() {
+            int met = model.men.size() == 12 ? 1 : 0;
+            met |= model.flakes.size() == 40 ? 2 : 0;
+            met |= model.comings.size() == 60 ? 4 : 0;
+            met |= model.debts.size() == 60 ? 8 : 0;
+            met |= model.date > 99000 ? 16 : 0;
+            return met | (log.stream().anyMatch(call -> call.matches("(?s)feed.* = -1")) ? 32 : 0);
+        }
     }
 
     public static void main(String[] args) {
+        int limitsMet = 0;
         for (int seed = 0; seed < RUNS; seed++) {
             try {
-                new Run(seed).go();
+                Run run = new Run(seed);
+                run.go();
+                limitsMet |= run.limitsMet();
             } catch (RuntimeException e) {
                 e.printStackTrace(System.out);
                 System.out.println("seed " + seed);
                 System.exit(1);
             }
+        }
+        if (limitsMet != 63) {
+            System.out.println("the runs came to the limits " + limitsMet + " alone, of 63");
+            System.exit(1);
         }
         System.out.println("all answers are as due in " + RUNS + " runs");
     }
