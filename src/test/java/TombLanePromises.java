@@ -26,6 +26,7 @@ public final class TombLanePromises extends Bench {
         promise20Fewest();
         promise21Of();
         promise22About();
+        exampleOfReadme();
         close();
     }
 
@@ -745,5 +746,21 @@ public final class TombLanePromises extends Bench {
         for (int what : none) {
             due("about(" + what + ")", x.about(what), -1);
         }
+    }
+
+    private static void exampleOfReadme() {
+        testing("README.md");
+        TombLane lane = new TombLane();
+        due("ani", lane.man(0x616e69L, 0, 0), 0);
+        due("bek", lane.man(0x62656bL, 0, 1), 1);
+        due("feed", lane.feed(0x64617920, 0x35206c65, 0x66743a20, 0x616e6920, 0x696c6c3b), 20);
+        due("flake", lane.flake(), 0);
+        due("day", lane.day(0, 5, 0), 2);
+        due("span", lane.span(1, 0, 0, false), 1);
+        due("arrears", lane.arrears(0, 59), 8);
+        due("worth", lane.worth(2, 0, 6), true);
+        due("debt", lane.debt(0, 1, 2, 3, 10), 0);
+        due("balance", lane.balance(1, 10), 18);
+        due("fewest", lane.fewest(10), 1);
     }
 }
